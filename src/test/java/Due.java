@@ -1,0 +1,35 @@
+/** Holds answers against those that are due, and prints each that differs. */
+final class Due {
+    private final String test;
+    private int right;
+    private int wrong;
+
+    Due(String test) {
+        this.test = test;
+    }
+
+    void is(String call, long got, long want) {
+        if (got == want) {
+            right++;
+            return;
+        }
+        wrong++;
+        System.out.println(test + ": " + call + " answered " + got + ", due is " + want);
+    }
+
+    void yes(String call, boolean got) {
+        is(call, got ? 1 : 0, 1);
+    }
+
+    void no(String call, boolean got) {
+        is(call, got ? 1 : 0, 0);
+    }
+
+    /** Ends the program with exit code 1 if an answer was wrong, or if none was asked for. */
+    void end() {
+        System.out.println(test + ": " + right + " answers as due, " + wrong + " not");
+        if (wrong != 0 || right == 0) {
+            System.exit(1);
+        }
+    }
+}

@@ -564,13 +564,13 @@ public final class BoughtAhead {
         }
 
         private int nearest() {
-            int best = NONE;
+            int found = NONE;
             for (int point = 0; point <= last; point++) {
-                if (!settled[point] && (best == NONE || far[point] < far[best])) {
-                    best = point;
+                if (!settled[point] && (found == NONE || far[point] < far[found])) {
+                    found = point;
                 }
             }
-            return best;
+            return found;
         }
 
         private void reachThose(int next) {

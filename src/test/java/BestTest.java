@@ -14,6 +14,9 @@ public final class BestTest {
         cutShort();
         unboundedBuying();
         leavesAllElse();
+        priceFirst();
+        sixOffers();
+        ofItsKindAlone();
         for (int seed = 0; seed < 400; seed++) {
             againstAll(new Random(seed), seed);
         }
@@ -141,6 +144,45 @@ public final class BestTest {
             DUE.is("PLAN", x.tell(0, 1, 20), 2);
             DUE.is("cost", x.cost(0), 2 + 6);
         }
+    }
+
+    private static void priceFirst() {
+        BoughtAhead x = made(2, new int[] {1, 2, 1}, new int[][] {{2, 3}});
+        prices("not asked for the BEST before", x, 2, 1, 2);
+        x.need(0, 0, 1, 1);
+        DUE.is("after another NEED", x.price(0, 1), 1);
+        x.reprice(0, 2);
+        DUE.is("after another COST", x.price(0, 1), 0);
+        x.hours(2);
+        DUE.is("after other HOURS", x.price(0, 1), 2);
+    }
+
+    /** Each OFFER is the cheapest for its own run of HOURS, and the longest is cut short by none. */
+    private static void sixOffers() {
+        int[][] offers = {{1, 9}, {2, 17}, {3, 24}, {4, 30}, {5, 35}, {6, 39}};
+        long[] due = {0, 9, 17, 24, 30, 35, 39};
+        for (int run = 1; run <= 6; run++) {
+            int[] need = new int[40];
+            java.util.Arrays.fill(need, 12, 12 + run, 2);
+            BoughtAhead x = made(10, need, offers);
+            DUE.is("a run of " + run, x.best(0), 2 * due[run]);
+            DUE.is("one more beside it", x.more(0, 12 + run, 2), 2 * (run < 6 ? due[run + 1] - due[run] : 9));
+        }
+    }
+
+    private static void ofItsKindAlone() {
+        BoughtAhead x = made(10, new int[] {1, 1, 1}, new int[][] {});
+        x.kind(4);
+        x.offer(1, 3, 9);
+        x.need(0, 1, 0, 1);
+        x.need(0, 1, 1, 1);
+        x.need(0, 1, 2, 1);
+        DUE.is("KIND 0 has no OFFER", x.best(0), 30);
+        DUE.is("KIND 1 has one", x.best(1), 9);
+        DUE.is("price of KIND 0", x.price(0, 0), 10);
+        DUE.is("price of KIND 1", x.price(1, 0), 1);
+        DUE.is("more of KIND 0", x.more(0, 0, 1), 10);
+        DUE.is("more of KIND 1", x.more(1, 0, 1), 4);
     }
 
     private static void againstAll(Random random, int seed) {

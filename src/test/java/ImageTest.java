@@ -8,6 +8,7 @@ public final class ImageTest {
         imagesStay();
         nothingRemains();
         hoursComeBack();
+        otherKindsInstead();
         DUE.end();
     }
 
@@ -132,5 +133,32 @@ public final class ImageTest {
         x.hours(40);
         DUE.is("no NEED beyond them", x.tell(1, 9, 0), 0);
         DUE.is("an OFFER is there beyond them", x.tell(0, 10, 1), 2);
+    }
+
+    /** Two images with other KINDS and OFFERS under the same numbers. */
+    private static void otherKindsInstead() {
+        BoughtAhead x = new BoughtAhead();
+        x.image(1);
+        x.kind(5);
+        x.kind(6);
+        x.offer(1, 7, 8);
+        x.image(0);
+        x.again(1);
+        x.kind(50);
+        x.kind(60);
+        x.offer(0, 70, 80);
+        x.offer(0, 30, 80);
+        x.image(1);
+        DUE.yes("again(0)", x.again(0));
+        DUE.is("RATE 0", x.about(0, 10), 5);
+        DUE.is("RATE 1", x.about(1, 10), 6);
+        DUE.is("KIND", x.about(0, 0), 1);
+        DUE.is("TERM", x.about(0, 1), 7);
+        DUE.is("COST", x.about(0, 2), 8);
+        DUE.yes("again(1)", x.again(1));
+        DUE.is("RATE 0", x.about(0, 10), 50);
+        DUE.is("KIND", x.about(0, 0), 0);
+        DUE.is("TERM", x.about(0, 1), 30);
+        DUE.is("COST", x.about(0, 2), 80);
     }
 }

@@ -14,6 +14,7 @@ public final class NeedAndPlanTest {
         tellNone();
         cost();
         dearest();
+        fortyHours();
         DUE.end();
     }
 
@@ -219,5 +220,32 @@ public final class NeedAndPlanTest {
         DUE.is("OWNER 0 pays it", x.pays(0, 0), 6L * 40 * 60 * 100000);
         x.need(2, 0, 7, 1);
         DUE.is("OWNER 2 pays it", x.pays(2, 0), 6L * 40 * 60 * 100000);
+    }
+
+    /** The last of 40 HOURS is next to nobody else's first one. */
+    private static void fortyHours() {
+        BoughtAhead x = oneKind(40, 10);
+        x.kind(20);
+        x.kind(30);
+        for (int offer = 0; offer < 6; offer++) {
+            x.offer(offer % 3, 40, 50);
+            x.buy(offer, 0, offer + 1);
+        }
+        for (int owner = 0; owner < 4; owner++) {
+            for (int kind = 0; kind < 3; kind++) {
+                x.need(owner, kind, 0, owner + kind);
+                x.need(owner, kind, 39, 3);
+            }
+        }
+        for (int kind = 0; kind < 3; kind++) {
+            DUE.is("NEED in all", x.about(kind, 12), 6 + 4 * kind + 12);
+            DUE.is("the most", x.about(kind, 13), Math.max(12, 6 + 4 * kind));
+            DUE.is("AHEAD", x.tell(kind, 39, 1), 2 * kind + 5);
+            DUE.is("bought of the first", x.about(kind, 3), kind + 1);
+            DUE.is("bought of the second", x.about(kind + 3, 3), kind + 4);
+        }
+        DUE.yes("clear(2)", x.clear(2));
+        DUE.is("AHEAD", x.tell(2, 39, 1), 0);
+        DUE.is("of the others", x.tell(1, 39, 1), 7);
     }
 }

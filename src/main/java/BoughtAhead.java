@@ -452,6 +452,8 @@ public final class BoughtAhead {
      * one unit from the point where it begins to the point where it ends, an idle machine carries
      * one back over an HOUR for nothing, and over each HOUR as many go forth as are NEEDED, those
      * that go back taken off. The worth of a point is the sum of PRICES from it to the last one.
+     * A step of a path goes along a way, or (its number being MOST_WAYS more) against it, by taking
+     * back what was carried there.
      */
     private static final class Flow {
         private static final int MOST_WAYS = MOST_OFFERS + 2;

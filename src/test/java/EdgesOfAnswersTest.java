@@ -221,11 +221,42 @@ public final class EdgesOfAnswersTest {
         x.buy(0, 0, 3);
         pay("one more than NEEDED", x, 0, 21, 0, 0);
 
-        DUE.says("go, one by one, to the OWNER who NEEDS most yet, of several the least; what is NEEDED beside costs its OWNER RATE");
+        mostYet();
+
+        DUE.says("(less those that it has in this HOUR)");
+        BoughtAhead z = made(10, 2, 0, 0, 0);
+        need(z, 0, 1, 1, 0, 0);
+        need(z, 1, 1, 1, 0, 0);
+        z.buy(0, 0, 1);
+        pay("in the next HOUR it begins anew", z, 0, 20, 0, 0);
+    }
+
+    private static void mostYet() {
+        DUE.says("the machines AHEAD go, one by one, to the OWNER who NEEDS most yet");
+        BoughtAhead most = made(10, 1, 0, 0);
+        need(most, 0, 1, 3, 5, 2);
+        most.buy(0, 0, 1);
+        pay("one of 5", most, 10, 30, 40, 20);
+        most.buy(0, 0, 2);
+        pay("one of the 4 that are left", most, 10, 30, 30, 20);
+
+        DUE.says("of several the least");
+        BoughtAhead several = made(10, 1, 0, 0);
+        need(several, 0, 0, 2, 2, 2);
+        int[] next = {1, 2, 3, 1, 2, 3};
+        long[] beside = {0, 20, 20, 20};
+        for (int i = 0; i < next.length; i++) {
+            pay(i + " AHEAD", several, beside);
+            several.buy(0, 0, i + 1);
+            beside[next[i]] -= 10;
+        }
+        pay("all AHEAD", several, beside);
+
+        DUE.says("what is NEEDED beside costs its OWNER RATE");
         BoughtAhead y = made(10, 1, 0, 0);
         need(y, 0, 1, 2, 3, 4);
-        int[] next = {3, 2, 3, 1, 2, 3, 0, 1, 2, 3};
-        long[] beside = {10, 20, 30, 40};
+        next = new int[] {3, 2, 3, 1, 2, 3, 0, 1, 2, 3};
+        beside = new long[] {10, 20, 30, 40};
         pay("none AHEAD", y, beside);
         for (int i = 0; i < next.length; i++) {
             y.buy(0, 0, i + 1);
@@ -234,13 +265,6 @@ public final class EdgesOfAnswersTest {
         }
         y.buy(0, 0, 60);
         pay("60 AHEAD", y, 0, 0, 0, 0);
-
-        DUE.says("(less those that it has in this HOUR)");
-        BoughtAhead z = made(10, 2, 0, 0, 0);
-        need(z, 0, 1, 1, 0, 0);
-        need(z, 1, 1, 1, 0, 0);
-        z.buy(0, 0, 1);
-        pay("in the next HOUR it begins anew", z, 0, 20, 0, 0);
     }
 
     private static void parted() {
@@ -263,19 +287,7 @@ public final class EdgesOfAnswersTest {
         need(dear, 39, 0, 9, 5, 0);
         pay("1440000000 by 9 and 5", dear, 0, 925714286, 514285714, 0);
 
-        DUE.says("what is left over is paid by the OWNER who had most, of several the least");
-        BoughtAhead y = made(10, 1, 20, 0);
-        need(y, 0, 0, 1, 1, 1);
-        y.buy(0, 0, 4);
-        pay("80 by 1, 1 and 1", y, 0, 28, 26, 26);
-        need(y, 0, 1, 0, 1, 2);
-        y.reprice(0, 25);
-        pay("100 by 1, 1 and 2: nothing is left over", y, 25, 0, 25, 50);
-        y.reprice(0, 26);
-        pay("104 by 1, 1 and 2", y, 26, 0, 26, 52);
-        y.buy(0, 0, 5);
-        y.reprice(0, 3);
-        pay("15 by 1, 1 and 2: 3, 3, 7 and two left over", y, 3, 0, 3, 9);
+        leftOver();
 
         DUE.says("(OWNER 0 if none had any)");
         BoughtAhead z = made(10, 1, 7, 0, 0);
@@ -285,5 +297,29 @@ public final class EdgesOfAnswersTest {
         pay("nothing NEEDED where they are", z, 21, 0, 0, 40);
         need(z, 0, 0, 0, 0, 1);
         pay("one had one", z, 0, 0, 0, 61);
+    }
+
+    private static void leftOver() {
+        DUE.says("what is left over is paid by the OWNER who had most");
+        BoughtAhead y = made(10, 1, 25, 0);
+        need(y, 0, 1, 0, 1, 2);
+        y.buy(0, 0, 4);
+        pay("100 by 1, 1 and 2: nothing is left over", y, 25, 0, 25, 50);
+        y.buy(0, 0, 5);
+        y.reprice(0, 3);
+        pay("15 by 1, 1 and 2: 3, 3, 7 and two left over", y, 3, 0, 3, 9);
+        need(y, 0, 1, 2, 1, 0);
+        pay("15 by 1, 2 and 1", y, 3, 9, 3, 0);
+
+        DUE.says("what is left over is paid by the OWNER who had most, of several the least");
+        need(y, 0, 0, 1, 1, 1);
+        y.reprice(0, 16);
+        pay("80 by 1, 1 and 1", y, 0, 28, 26, 26);
+        need(y, 0, 1, 2, 2, 1);
+        y.buy(0, 0, 6);
+        y.reprice(0, 7);
+        pay("42 by 1, 2, 2 and 1: nothing is left over", y, 7, 14, 14, 7);
+        y.buy(0, 0, 7);
+        pay("49 by 1, 2, 2 and 1: 8, 16, 16, 8 and one left over", y, 8, 17, 16, 8);
     }
 }

@@ -313,7 +313,7 @@ public final class EdgesOfLaterPromisesTest {
     }
 
     private static void imageAnew() {
-        DUE.says("Promise 19: as it is now (not as it was when there was an image k before)");
+        DUE.says("Promise 19: .. as it is now .., not as an earlier image k had it");
         BoughtAhead x = made(5, 10);
         x.need(0, 0, 4, 3);
         x.image(1);
@@ -342,7 +342,7 @@ public final class EdgesOfLaterPromisesTest {
     }
 
     private static void again() {
-        DUE.says("Promise 20: All that is as image k has it: true; false if there is none such.");
+        DUE.says("Promise 20: All that is as image k has it ..: true; false if there is none such.");
         BoughtAhead none = new BoughtAhead();
         for (int k : new int[] {0, 1, 2, -1, 3, MIN, MAX}) {
             DUE.no("no images: again(" + k + ")", none.again(k));

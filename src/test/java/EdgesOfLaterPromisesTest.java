@@ -133,6 +133,14 @@ public final class EdgesOfLaterPromisesTest {
         DUE.is("a promise is left", x.more(0, 0, -2), 2 * 10 - 2 * 12);
         DUE.is("one of two promises", x.more(0, 0, -1), 10 - 12);
         DUE.is("not less than nothing", x.more(0, 0, -60), 2 * 10 - 2 * 12);
+        BoughtAhead y = made(3, 4);
+        y.offer(0, 2, 2);
+        y.need(0, 0, 1, 1);
+        y.need(0, 0, 2, 2);
+        DUE.is("of two promises that end with the last HOUR one is NEEDED before it", y.best(0), 4);
+        for (int n : new int[] {-1, -2, -3, -60}) {
+            DUE.is("it stays: more(0, 2, " + n + ")", y.more(0, 2, n), -2);
+        }
     }
 
     private static void moreNone() {

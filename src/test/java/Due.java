@@ -1,8 +1,8 @@
 /** Holds answers against those that are due, and prints each that differs. */
 final class Due {
     private final String test;
-    private String sentence = "";
-    private int underSentence = 1;
+    private String part = "";
+    private int underPart = 1;
     private int right;
     private int wrong;
 
@@ -10,21 +10,29 @@ final class Due {
         this.test = test;
     }
 
-    /** What follows is a test of this sentence of the document, which asks for one answer at least. */
+    /**
+     * What follows is a test of this sentence of the document. The words are the document's own, behind
+     * "Promise n: " if they stand there; " [..] " is a gap. EachSentenceTest holds that.
+     */
     void says(String words) {
-        endSentence();
-        sentence = " [" + words + "]";
-        underSentence = 0;
+        part(words);
+    }
+
+    /** What follows is a part of the test, which asks for one answer at least. */
+    void part(String name) {
+        endPart();
+        part = " [" + name + "]";
+        underPart = 0;
     }
 
     void is(String call, long got, long want) {
-        underSentence++;
+        underPart++;
         if (got == want) {
             right++;
             return;
         }
         wrong++;
-        System.out.println(test + sentence + ": " + call + " answered " + got + ", due is " + want);
+        System.out.println(test + part + ": " + call + " answered " + got + ", due is " + want);
     }
 
     void yes(String call, boolean got) {
@@ -37,17 +45,17 @@ final class Due {
 
     /** Ends the program with exit code 1 if an answer was wrong, or if none was asked for. */
     void end() {
-        endSentence();
+        endPart();
         System.out.println(test + ": " + right + " answers as due, " + wrong + " not");
         if (wrong != 0 || right == 0) {
             System.exit(1);
         }
     }
 
-    private void endSentence() {
-        if (underSentence == 0) {
+    private void endPart() {
+        if (underPart == 0) {
             wrong++;
-            System.out.println(test + sentence + ": nothing was asked");
+            System.out.println(test + part + ": nothing was asked");
         }
     }
 }

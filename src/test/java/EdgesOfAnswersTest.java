@@ -300,7 +300,7 @@ public final class EdgesOfAnswersTest {
     }
 
     private static void leftOver() {
-        DUE.says("what is left over is paid by the OWNER who had most");
+        DUE.says("cut, and what is left over is paid by the OWNER who had most");
         BoughtAhead y = made(10, 1, 25, 0);
         need(y, 0, 1, 0, 1, 2);
         y.buy(0, 0, 4);

@@ -321,7 +321,7 @@ public final class EdgesOfLaterPromisesTest {
     }
 
     private static void imageAnew() {
-        DUE.says("Promise 19: .. as it is now .., not as an earlier image k had it");
+        DUE.says("Promise 19: as it is now");
         BoughtAhead x = made(5, 10);
         x.need(0, 0, 4, 3);
         x.image(1);
@@ -350,7 +350,7 @@ public final class EdgesOfLaterPromisesTest {
     }
 
     private static void again() {
-        DUE.says("Promise 20: All that is as image k has it ..: true; false if there is none such.");
+        DUE.says("Promise 20: All that is as image k has it [..] : true; false if there is none such.");
         BoughtAhead none = new BoughtAhead();
         for (int k : new int[] {0, 1, 2, -1, 3, MIN, MAX}) {
             DUE.no("no images: again(" + k + ")", none.again(k));
@@ -445,7 +445,7 @@ public final class EdgesOfLaterPromisesTest {
     }
 
     private static void askingChangesNothing() {
-        DUE.says("Promises 10 to 14 and 16 to 18: what is asked changes nothing");
+        DUE.says("Nothing is promised beyond the answers and state changes described above");
         nothingChanges("tell", x -> x.tell(0, 1, 2));
         nothingChanges("cost", x -> x.cost(0));
         nothingChanges("best", x -> x.best(0));

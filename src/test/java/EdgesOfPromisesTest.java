@@ -77,7 +77,7 @@ public final class EdgesOfPromisesTest {
     }
 
     private static void hours() {
-        DUE.says("Promise 2: So many HOURS ..: true; false for others.");
+        DUE.says("Promise 2: So many HOURS [..] : true; false for others.");
         BoughtAhead x = new BoughtAhead();
         for (int h = 1; h <= 40; h++) {
             DUE.yes("hours(" + h + ")", x.hours(h));
@@ -141,7 +141,7 @@ public final class EdgesOfPromisesTest {
     }
 
     private static void hoursThatStay() {
-        DUE.says("Promise 2: .. of HOURS that are no more .., not of others");
+        DUE.says("Promise 2: of HOURS that are no more");
         nothingChanges("hours(10), of 10", EdgesOfPromisesTest::ordinary, x -> x.hours(10));
         nothingChanges("40 HOURS for a while", EdgesOfPromisesTest::ordinary, x -> {
             x.hours(40);
@@ -300,7 +300,7 @@ public final class EdgesOfPromisesTest {
     }
 
     private static void needsAboveNine() {
-        DUE.says("Promise 7: false, and nothing changes: .. or a half byte is above 9");
+        DUE.says("Promise 7: false, and nothing changes: [..] or a half byte is above 9");
         BoughtAhead x = made(10, 10);
         for (int place = 0; place < 8; place++) {
             for (int half = 8; half < 16; half++) {
@@ -313,7 +313,7 @@ public final class EdgesOfPromisesTest {
             }
         }
 
-        DUE.says("Promise 7: false, and nothing changes: .. or there is none such (OWNER, KIND)");
+        DUE.says("Promise 7: false, and nothing changes: [..] or there is none such (OWNER, KIND)");
         for (int n : new int[] {-1, 4, MIN, MAX}) {
             DUE.no("OWNER " + n, x.needs(n, 0, 0, 0x22222222));
             nothingChanges("OWNER " + n, EdgesOfPromisesTest::ordinary, y -> y.needs(n, 0, 0, 0x22222222));

@@ -84,12 +84,12 @@ public final class RangeTest {
 
     private void all(int hours, int kinds, int offers, int images) {
         for (FaceCall call : FaceCall.all(hours, kinds, offers, images)) {
-            DUE.says(name + ": " + call.name);
+            DUE.part(name + ": " + call.name);
             ranges(call);
             refused(call, row(call, MIN));
             refused(call, row(call, MAX));
         }
-        DUE.says(name + ": another what");
+        DUE.part(name + ": another what");
         others(kinds, offers);
     }
 
@@ -167,7 +167,7 @@ public final class RangeTest {
 
     /** Else it would prove nothing that all is as it was. */
     private static void toldSeesEachChange() {
-        DUE.says("all that is told sees each change");
+        DUE.part("all that is told sees each change");
         RangeTest test = new RangeTest("ordinary", x -> ordinary(x, 12));
         test.seen("hours", x -> x.hours(11));
         test.seen("more hours", x -> x.hours(13));

@@ -23,23 +23,6 @@ public final class BestTest {
         DUE.end();
     }
 
-    private static BoughtAhead made(int rate, int[] need, int[][] offers) {
-        BoughtAhead x = new BoughtAhead();
-        x.hours(need.length);
-        x.kind(rate);
-        for (int[] offer : offers) {
-            x.offer(0, offer[0], offer[1]);
-        }
-        for (int hour = 0; hour < need.length; hour++) {
-            int left = need[hour];
-            for (int owner = 0; owner < 4; owner++) {
-                x.need(owner, 0, hour, Math.min(9, left));
-                left -= Math.min(9, left);
-            }
-        }
-        return x;
-    }
-
     private static void prices(String name, BoughtAhead x, int... row) {
         for (int hour = 0; hour < row.length; hour++) {
             DUE.is(name + ": price of " + hour, x.price(0, hour), row[hour]);
@@ -47,7 +30,7 @@ public final class BestTest {
     }
 
     private static void none() {
-        BoughtAhead x = made(10, new int[] {1, 1}, new int[][] {{2, 15}});
+        BoughtAhead x = Made.withOffers(10, new int[] {1, 1}, new int[][] {{2, 15}});
         for (int kind : new int[] {-1, 1, 3, Integer.MIN_VALUE, Integer.MAX_VALUE}) {
             DUE.is("best(" + kind + ")", x.best(kind), -1);
             DUE.is("price(" + kind + ", 0)", x.price(kind, 0), -1);
@@ -64,7 +47,7 @@ public final class BestTest {
     }
 
     private static void noOffers() {
-        BoughtAhead x = made(10, new int[] {3, 0, 36}, new int[][] {});
+        BoughtAhead x = Made.withOffers(10, new int[] {3, 0, 36}, new int[][] {});
         DUE.is("no OFFERS: best", x.best(0), 390);
         prices("no OFFERS", x, 10, 10, 10);
         DUE.is("60 more", x.more(0, 1, 60), 600);
@@ -74,7 +57,7 @@ public final class BestTest {
 
     /** Two machines in a row are bought; windows of three are 20 at most, and late PRICES come first. */
     private static void twoInARow() {
-        BoughtAhead x = made(10, new int[] {1, 1, 1, 1, 1, 1}, new int[][] {{3, 20}});
+        BoughtAhead x = Made.withOffers(10, new int[] {1, 1, 1, 1, 1, 1}, new int[][] {{3, 20}});
         DUE.is("two in a row: best", x.best(0), 40);
         prices("two in a row", x, 0, 10, 10, 0, 10, 10);
         DUE.is("one fewer at the edge", x.more(0, 0, -1), 0);
@@ -83,7 +66,7 @@ public final class BestTest {
 
     /** Two machines overlap in the middle HOUR: what is NEEDED does not fall apart into layers. */
     private static void crossing() {
-        BoughtAhead x = made(2, new int[] {1, 2, 1}, new int[][] {{2, 3}});
+        BoughtAhead x = Made.withOffers(2, new int[] {1, 2, 1}, new int[][] {{2, 3}});
         DUE.is("crossing: best", x.best(0), 6);
         prices("crossing", x, 2, 1, 2);
         DUE.is("one more in the middle", x.more(0, 1, 1), 2);
@@ -92,18 +75,18 @@ public final class BestTest {
     }
 
     private static void free() {
-        BoughtAhead x = made(7, new int[] {5, 0, 36, 1}, new int[][] {{2, 0}, {4, 20}});
+        BoughtAhead x = Made.withOffers(7, new int[] {5, 0, 36, 1}, new int[][] {{2, 0}, {4, 20}});
         DUE.is("free: best", x.best(0), 0);
         prices("free", x, 0, 0, 0, 0);
         DUE.is("free: more", x.more(0, 2, 60), 0);
         x.reprice(0, 100000);
         DUE.is("not free any more", x.best(0), 20 + 4 * 7 + 35 * 7);
-        BoughtAhead none = made(1000, new int[40], new int[][] {{40, 0}});
+        BoughtAhead none = Made.withOffers(1000, new int[40], new int[][] {{40, 0}});
         DUE.is("nothing NEEDED, all free", none.price(0, 39), 0);
     }
 
     private static void cutShort() {
-        BoughtAhead x = made(10, new int[] {0, 0, 2}, new int[][] {{40, 9}});
+        BoughtAhead x = Made.withOffers(10, new int[] {0, 0, 2}, new int[][] {{40, 9}});
         DUE.is("cut short: best", x.best(0), 18);
         prices("cut short", x, 0, 0, 9);
         x.reprice(0, 12);
@@ -117,12 +100,12 @@ public final class BestTest {
 
     /** BEST and MORE buy as many as they like, though a PLAN that is told holds 60 at most. */
     private static void unboundedBuying() {
-        BoughtAhead x = made(1000, new int[] {36, 36}, new int[][] {{2, 1}});
+        BoughtAhead x = Made.withOffers(1000, new int[] {36, 36}, new int[][] {{2, 1}});
         DUE.is("36 of one", x.best(0), 36);
         DUE.is("96 of one", x.more(0, 0, 60), 60);
         x.buy(0, 0, 3);
         DUE.is("the PLAN does not matter", x.best(0), 36);
-        DUE.is("most of all", made(1000, full(40, 36), new int[][] {}).best(0), 40L * 36 * 1000);
+        DUE.is("most of all", Made.withOffers(1000, full(40, 36), new int[][] {}).best(0), 40L * 36 * 1000);
     }
 
     private static int[] full(int hours, int n) {
@@ -133,7 +116,7 @@ public final class BestTest {
 
     /** Asking changes nothing: not NEED, not the PLAN, not the next answer. */
     private static void leavesAllElse() {
-        BoughtAhead x = made(2, new int[] {1, 2, 1}, new int[][] {{2, 3}});
+        BoughtAhead x = Made.withOffers(2, new int[] {1, 2, 1}, new int[][] {{2, 3}});
         x.buy(0, 1, 2);
         for (int i = 0; i < 3; i++) {
             DUE.is("more", x.more(0, 1, 2), 4);
@@ -147,7 +130,7 @@ public final class BestTest {
     }
 
     private static void priceFirst() {
-        BoughtAhead x = made(2, new int[] {1, 2, 1}, new int[][] {{2, 3}});
+        BoughtAhead x = Made.withOffers(2, new int[] {1, 2, 1}, new int[][] {{2, 3}});
         prices("not asked for the BEST before", x, 2, 1, 2);
         x.need(0, 0, 1, 1);
         DUE.is("after another NEED", x.price(0, 1), 1);
@@ -164,14 +147,14 @@ public final class BestTest {
         for (int run = 1; run <= 6; run++) {
             int[] need = new int[40];
             java.util.Arrays.fill(need, 12, 12 + run, 2);
-            BoughtAhead x = made(10, need, offers);
+            BoughtAhead x = Made.withOffers(10, need, offers);
             DUE.is("a run of " + run, x.best(0), 2 * due[run]);
             DUE.is("one more beside it", x.more(0, 12 + run, 2), 2 * (run < 6 ? due[run + 1] - due[run] : 9));
         }
     }
 
     private static void ofItsKindAlone() {
-        BoughtAhead x = made(10, new int[] {1, 1, 1}, new int[][] {});
+        BoughtAhead x = Made.withOffers(10, new int[] {1, 1, 1}, new int[][] {});
         x.kind(4);
         x.offer(1, 3, 9);
         x.need(0, 1, 0, 1);
@@ -197,7 +180,7 @@ public final class BestTest {
             int term = 1 + random.nextInt(5);
             offers[i] = new int[] {term, random.nextInt(rate * Math.min(term, hours) + 2)};
         }
-        BoughtAhead x = made(rate, need, offers);
+        BoughtAhead x = Made.withOffers(rate, need, offers);
         String name = "search " + seed;
         long best = AllThereAre.leastCost(rate, need, offers);
         DUE.is(name + ": best", x.best(0), best);

@@ -25,13 +25,6 @@ public final class EdgesOfLaterPromisesTest {
         DUE.end();
     }
 
-    private static BoughtAhead made(int hours, int rate) {
-        BoughtAhead x = new BoughtAhead();
-        x.hours(hours);
-        x.kind(rate);
-        return x;
-    }
-
     private static void needAll(BoughtAhead x, int kind, int hour, int n) {
         for (int owner = 0; owner < 4; owner++) {
             x.need(owner, kind, hour, n);
@@ -76,7 +69,7 @@ public final class EdgesOfLaterPromisesTest {
     private static void best() {
         DUE.says("Promise 12: BEST of a KIND. -1: there is none such.");
         DUE.is("no KIND at all", new BoughtAhead().best(0), -1);
-        BoughtAhead x = made(40, 1000);
+        BoughtAhead x = Made.withKind(40, 1000);
         DUE.is("nothing NEEDED, no OFFERS", x.best(0), 0);
         for (int hour = 0; hour < 40; hour++) {
             needAll(x, 0, hour, 9);
@@ -92,7 +85,7 @@ public final class EdgesOfLaterPromisesTest {
     private static void price() {
         DUE.says("Promise 13: The PRICE of an HOUR of the PROOF of a KIND's BEST. NONE if there is none such.");
         DUE.is("no KIND at all", new BoughtAhead().price(0, 0), -1);
-        BoughtAhead x = made(3, 10);
+        BoughtAhead x = Made.withKind(3, 10);
         x.offer(0, 3, 15);
         DUE.is("the first HOUR", x.price(0, 0), 0);
         DUE.is("the last HOUR", x.price(0, 2), 10);
@@ -105,7 +98,7 @@ public final class EdgesOfLaterPromisesTest {
 
     private static void more() {
         DUE.says("Promise 14: By how much BEST would be more if so many more machines of a KIND were NEEDED in an HOUR, -60 .. 60");
-        BoughtAhead x = made(3, 10);
+        BoughtAhead x = Made.withKind(3, 10);
         needAll(x, 0, 1, 9);
         DUE.is("none more", x.more(0, 1, 0), 0);
         DUE.is("one more", x.more(0, 1, 1), 10);
@@ -121,7 +114,7 @@ public final class EdgesOfLaterPromisesTest {
 
     private static void moreIsNotLessThanNothing() {
         DUE.says("Promise 14: (fewer: less; NEED is 0 at least then)");
-        BoughtAhead x = made(3, 10);
+        BoughtAhead x = Made.withKind(3, 10);
         x.need(1, 0, 0, 2);
         needAll(x, 0, 2, 9);
         int[][] due = {{0, -1, -10}, {0, -2, -20}, {0, -3, -20}, {0, -60, -20}, {1, -1, 0}, {1, -60, 0},
@@ -133,7 +126,7 @@ public final class EdgesOfLaterPromisesTest {
         DUE.is("a promise is left", x.more(0, 0, -2), 2 * 10 - 2 * 12);
         DUE.is("one of two promises", x.more(0, 0, -1), 10 - 12);
         DUE.is("not less than nothing", x.more(0, 0, -60), 2 * 10 - 2 * 12);
-        BoughtAhead y = made(3, 4);
+        BoughtAhead y = Made.withKind(3, 4);
         y.offer(0, 2, 2);
         y.need(0, 0, 1, 1);
         y.need(0, 0, 2, 2);
@@ -146,7 +139,7 @@ public final class EdgesOfLaterPromisesTest {
     private static void moreNone() {
         DUE.says("Promise 14: -1000000000 if there is none such (of any).");
         DUE.is("no KIND at all", new BoughtAhead().more(0, 0, 0), NO_MORE);
-        BoughtAhead x = made(3, 10);
+        BoughtAhead x = Made.withKind(3, 10);
         for (int n : new int[] {-61, 61, MIN, MAX, MIN + 1}) {
             DUE.is("more(0, 0, " + n + ")", x.more(0, 0, n), NO_MORE);
         }
@@ -159,7 +152,7 @@ public final class EdgesOfLaterPromisesTest {
 
     private static void blind() {
         DUE.says("Promise 15: it becomes the PLAN for its KIND, instead of what was there");
-        BoughtAhead x = made(40, 10);
+        BoughtAhead x = Made.withKind(40, 10);
         x.kind(20);
         x.offer(0, 3, 20);
         x.offer(1, 3, 20);
@@ -187,7 +180,7 @@ public final class EdgesOfLaterPromisesTest {
         DUE.is("NEED stays", x.about(0, 12), 1);
 
         DUE.says("Promise 15: -1: there is none such.");
-        DUE.is("no OFFER at all", made(3, 10).blind(0), -1);
+        DUE.is("no OFFER at all", Made.withKind(3, 10).blind(0), -1);
         for (int offer : new int[] {-1, 3, 5, 6, MIN, MAX}) {
             DUE.is("blind(" + offer + ")", x.blind(offer), -1);
             nothingChanges("blind(" + offer + ")", y -> y.blind(offer));
@@ -198,7 +191,7 @@ public final class EdgesOfLaterPromisesTest {
     private static void pays() {
         DUE.says("Promise 16: What an OWNER pays for a KIND by the PLAN. -1: there is none such.");
         DUE.is("no KIND at all", new BoughtAhead().pays(0, 0), -1);
-        BoughtAhead x = made(3, 10);
+        BoughtAhead x = Made.withKind(3, 10);
         for (int owner = 0; owner < 4; owner++) {
             DUE.is("nothing NEEDED: OWNER " + owner, x.pays(owner, 0), 0);
         }
@@ -213,7 +206,7 @@ public final class EdgesOfLaterPromisesTest {
 
     private static void about() {
         DUE.says("Promise 17: Of an OFFER, what 0: KIND, 1: TERM, 2: COST, 3: how many the PLAN buys in all");
-        BoughtAhead x = made(40, 7);
+        BoughtAhead x = Made.withKind(40, 7);
         x.kind(9);
         x.offer(1, 40, 100000);
         x.offer(0, 1, 0);
@@ -231,7 +224,7 @@ public final class EdgesOfLaterPromisesTest {
         DUE.is("of the other one", x.about(1, 3), 0);
 
         DUE.says("Promise 17: Of a KIND, what 10: RATE, 11: OFFERS, 12: NEED of all HOURS together, 13: the most in an HOUR");
-        BoughtAhead y = made(40, 1000);
+        BoughtAhead y = Made.withKind(40, 1000);
         y.kind(1);
         DUE.is("RATE of 0", y.about(0, 10), 1000);
         DUE.is("RATE of 1", y.about(1, 10), 1);
@@ -272,7 +265,7 @@ public final class EdgesOfLaterPromisesTest {
             }
             DUE.is("OFFER 5 is no KIND", y.about(5, 10 + what), -1);
             DUE.is("OFFER 2 is no KIND", y.about(2, 10 + what), -1);
-            DUE.is("KIND 0 is no OFFER", made(3, 10).about(0, what), -1);
+            DUE.is("KIND 0 is no OFFER", Made.withKind(3, 10).about(0, what), -1);
         }
     }
 
@@ -322,7 +315,7 @@ public final class EdgesOfLaterPromisesTest {
 
     private static void imageAnew() {
         DUE.says("Promise 19: as it is now");
-        BoughtAhead x = made(5, 10);
+        BoughtAhead x = Made.withKind(5, 10);
         x.need(0, 0, 4, 3);
         x.image(1);
         x.need(0, 0, 4, 4);
@@ -363,7 +356,7 @@ public final class EdgesOfLaterPromisesTest {
         for (int k : new int[] {1, -1, 3, MIN, MAX}) {
             nothingChanges("again(" + k + ")", y -> y.again(k));
         }
-        BoughtAhead x = made(5, 10);
+        BoughtAhead x = Made.withKind(5, 10);
         x.offer(0, 2, 9);
         x.need(0, 0, 4, 3);
         x.buy(0, 4, 2);

@@ -26,13 +26,6 @@ public final class EdgesOfPromisesTest {
         DUE.end();
     }
 
-    private static BoughtAhead made(int hours, int rate) {
-        BoughtAhead x = new BoughtAhead();
-        x.hours(hours);
-        x.kind(rate);
-        return x;
-    }
-
     private static void nothingChanges(String call, Consumer<BoughtAhead> calls, Consumer<BoughtAhead> one) {
         DUE.yes(call + " changes nothing", Told.after(calls.andThen(one)).isAs(Told.after(calls)));
     }
@@ -147,7 +140,7 @@ public final class EdgesOfPromisesTest {
             x.hours(40);
             x.hours(10);
         });
-        BoughtAhead x = made(10, 10);
+        BoughtAhead x = Made.withKind(10, 10);
         x.offer(0, 5, 20);
         x.buy(0, 7, 2);
         DUE.yes("hours(8)", x.hours(8));
@@ -200,7 +193,7 @@ public final class EdgesOfPromisesTest {
 
     private static void reprice() {
         DUE.says("Promise 5: An OFFER's COST is another one: true");
-        BoughtAhead x = made(2, 10);
+        BoughtAhead x = Made.withKind(2, 10);
         x.offer(0, 2, 15);
         x.offer(0, 2, 19);
         x.need(0, 0, 0, 1);
@@ -231,7 +224,7 @@ public final class EdgesOfPromisesTest {
 
     private static void need() {
         DUE.says("Promise 6: An OWNER's NEED in an HOUR: true");
-        BoughtAhead x = made(10, 10);
+        BoughtAhead x = Made.withKind(10, 10);
         x.kind(20);
         DUE.yes("9", x.need(3, 1, 9, 9));
         DUE.yes("9, again", x.need(3, 1, 9, 9));
@@ -263,7 +256,7 @@ public final class EdgesOfPromisesTest {
 
     private static void needs() {
         DUE.says("Promise 7: An OWNER's NEED in eight HOURS from one on, by half bytes, the highest first: true");
-        BoughtAhead x = made(10, 10);
+        BoughtAhead x = Made.withKind(10, 10);
         DUE.yes("from the first HOUR on", x.needs(2, 0, 0, 0x12345678));
         eight("from the first", x, 0, 1, 2, 3, 4, 5, 6, 7, 8);
         DUE.is("not beyond", x.tell(0, 8, 12), 0);
@@ -286,7 +279,7 @@ public final class EdgesOfPromisesTest {
 
     private static void needsOutOfHours() {
         DUE.says("Promise 7: false, and nothing changes: one of these is no HOUR");
-        BoughtAhead x = made(10, 10);
+        BoughtAhead x = Made.withKind(10, 10);
         for (int from : new int[] {-8, -7, -1, 3, 9, 10, 33, MIN, MIN + 1, MAX, MAX - 6, MAX - 7, MAX - 8}) {
             DUE.no("from " + from, x.needs(0, 0, from, 0x22222222));
             nothingChanges("from " + from, EdgesOfPromisesTest::ordinary, y -> y.needs(0, 0, from, 0x22222222));
@@ -301,7 +294,7 @@ public final class EdgesOfPromisesTest {
 
     private static void needsAboveNine() {
         DUE.says("Promise 7: false, and nothing changes: [..] or a half byte is above 9");
-        BoughtAhead x = made(10, 10);
+        BoughtAhead x = Made.withKind(10, 10);
         for (int place = 0; place < 8; place++) {
             for (int half = 8; half < 16; half++) {
                 int eight = 0x22222222 & ~(15 << 4 * place) | half << 4 * place;
@@ -326,7 +319,7 @@ public final class EdgesOfPromisesTest {
 
     private static void buy() {
         DUE.says("Promise 8: So many of an OFFER are bought at an HOUR by the PLAN: true");
-        BoughtAhead x = made(10, 10);
+        BoughtAhead x = Made.withKind(10, 10);
         x.offer(0, 3, 20);
         x.offer(0, 3, 20);
         for (int hour : new int[] {0, 9}) {
@@ -352,7 +345,7 @@ public final class EdgesOfPromisesTest {
 
     private static void clear() {
         DUE.says("Promise 9: The PLAN buys nothing of a KIND any more: true");
-        BoughtAhead x = made(40, 10);
+        BoughtAhead x = Made.withKind(40, 10);
         DUE.yes("a KIND without OFFERS", x.clear(0));
         x.kind(20);
         x.kind(30);
@@ -379,14 +372,14 @@ public final class EdgesOfPromisesTest {
         DUE.says("Promise 9: false if there is none such.");
         DUE.no("no KIND at all", new BoughtAhead().clear(0));
         for (int kind : new int[] {-1, 2, 3, MIN, MAX}) {
-            DUE.no("clear(" + kind + ")", made(2, 1).clear(kind));
+            DUE.no("clear(" + kind + ")", Made.withKind(2, 1).clear(kind));
             nothingChanges("clear(" + kind + ")", EdgesOfPromisesTest::ordinary, y -> y.clear(kind));
         }
     }
 
     private static void tell() {
         DUE.says("Promise 10: 2: how many are NEEDED and not AHEAD, 3: AHEAD and not NEEDED");
-        BoughtAhead x = made(2, 10);
+        BoughtAhead x = Made.withKind(2, 10);
         x.offer(0, 1, 5);
         x.need(0, 0, 1, 1);
         x.need(3, 0, 1, 1);
@@ -401,7 +394,7 @@ public final class EdgesOfPromisesTest {
         }
 
         DUE.says("Promise 10: 10 .. 13: NEED of OWNER what - 10; 20 .. 25: how many of OFFER what - 20 the PLAN buys there");
-        BoughtAhead y = made(3, 10);
+        BoughtAhead y = Made.withKind(3, 10);
         for (int offer = 0; offer < 6; offer++) {
             DUE.is("OFFER " + offer + " is none yet", y.tell(0, 1, 20 + offer), -1);
             y.offer(0, 3, 20);
@@ -423,7 +416,7 @@ public final class EdgesOfPromisesTest {
 
     private static void tellNone() {
         DUE.says("Promise 10: NONE if there is none such, or for another what.");
-        BoughtAhead x = made(10, 10);
+        BoughtAhead x = Made.withKind(10, 10);
         x.offer(0, 3, 20);
         x.offer(0, 3, 20);
         for (int what : new int[] {MIN, -1, 4, 9, 14, 19, 22, 25, 26, MAX}) {
@@ -444,7 +437,7 @@ public final class EdgesOfPromisesTest {
     private static void costOfNone() {
         DUE.says("Promise 11: COST of the PLAN for a KIND. -1: there is none such.");
         DUE.is("no KIND at all", new BoughtAhead().cost(0), -1);
-        BoughtAhead x = made(40, 1000);
+        BoughtAhead x = Made.withKind(40, 1000);
         DUE.is("nothing NEEDED, no OFFERS", x.cost(0), 0);
         for (int kind : new int[] {-1, 1, 3, MIN, MAX}) {
             DUE.is("cost(" + kind + ")", x.cost(kind), -1);

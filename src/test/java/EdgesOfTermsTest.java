@@ -14,13 +14,6 @@ public final class EdgesOfTermsTest {
         DUE.end();
     }
 
-    private static BoughtAhead made(int hours, int rate) {
-        BoughtAhead x = new BoughtAhead();
-        x.hours(hours);
-        x.kind(rate);
-        return x;
-    }
-
     private static void ahead(String name, BoughtAhead x, int kind, int... row) {
         for (int hour = 0; hour < row.length; hour++) {
             DUE.is(name + ": AHEAD in HOUR " + hour, x.tell(kind, hour, 1), row[hour]);
@@ -41,7 +34,7 @@ public final class EdgesOfTermsTest {
 
         DUE.says("HOURS are 0 .. h - 1");
         for (int h : new int[] {1, 2, 24, 39, 40}) {
-            BoughtAhead y = made(h, 10);
+            BoughtAhead y = Made.withKind(h, 10);
             y.offer(0, 1, 5);
             for (int hour : new int[] {0, h - 1}) {
                 DUE.yes("of " + h + ": need in " + hour, y.need(0, 0, hour, 1));
@@ -88,7 +81,7 @@ public final class EdgesOfTermsTest {
 
     private static void offers() {
         DUE.says("OFFERS, at most 6, from 0 on, are of a KIND");
-        BoughtAhead x = made(24, 10);
+        BoughtAhead x = Made.withKind(24, 10);
         x.kind(20);
         x.kind(30);
         for (int i = 0; i < 6; i++) {
@@ -101,7 +94,7 @@ public final class EdgesOfTermsTest {
             DUE.is("a seventh, of KIND " + kind, x.offer(kind, 1, 1), -1);
             DUE.is("OFFERS of KIND " + kind, x.about(kind, 11), 2);
         }
-        BoughtAhead one = made(24, 10);
+        BoughtAhead one = Made.withKind(24, 10);
         for (int i = 0; i < 6; i++) {
             DUE.is("all of one KIND", one.offer(0, 1, 1), i);
         }
@@ -109,7 +102,7 @@ public final class EdgesOfTermsTest {
         DUE.is("OFFERS", one.about(0, 11), 6);
 
         DUE.says("have a TERM, 1 .. 40");
-        BoughtAhead y = made(2, 10);
+        BoughtAhead y = Made.withKind(2, 10);
         DUE.is("TERM 0", y.offer(0, 0, 5), -1);
         DUE.is("TERM 41", y.offer(0, 41, 5), -1);
         DUE.is("TERM 1", y.offer(0, 1, 5), 0);
@@ -118,7 +111,7 @@ public final class EdgesOfTermsTest {
         DUE.is("TERM of 1", y.about(1, 1), 40);
 
         DUE.says("and a COST, 0 .. 100000");
-        BoughtAhead z = made(2, 10);
+        BoughtAhead z = Made.withKind(2, 10);
         DUE.is("COST -1", z.offer(0, 1, -1), -1);
         DUE.is("COST 100001", z.offer(0, 1, 100001), -1);
         DUE.is("COST 0", z.offer(0, 1, 0), 0);
@@ -129,7 +122,7 @@ public final class EdgesOfTermsTest {
 
     private static void asManyHours() {
         DUE.says("one bought at an hour is a machine of that KIND from then on for as many hours");
-        BoughtAhead x = made(6, 10);
+        BoughtAhead x = Made.withKind(6, 10);
         x.kind(20);
         x.offer(0, 3, 20);
         x.offer(0, 1, 5);
@@ -142,7 +135,7 @@ public final class EdgesOfTermsTest {
         x.buy(2, 1, 20);
         ahead("and TERM 2, twice", x, 0, 10, 31, 21, 3, 0, 0);
         ahead("the other KIND", x, 1, 0, 0, 0, 0, 0, 0);
-        BoughtAhead y = made(40, 10);
+        BoughtAhead y = Made.withKind(40, 10);
         y.offer(0, 40, 1);
         y.offer(0, 39, 1);
         y.buy(0, 0, 1);
@@ -153,14 +146,14 @@ public final class EdgesOfTermsTest {
 
     private static void beyondTheLastHour() {
         DUE.says("beyond the last one they count for nothing");
-        BoughtAhead x = made(6, 10);
+        BoughtAhead x = Made.withKind(6, 10);
         x.offer(0, 3, 20);
         x.buy(0, 5, 1);
         ahead("at the last HOUR", x, 0, 0, 0, 0, 0, 0, 1);
         x.need(0, 0, 0, 1);
         x.need(0, 0, 1, 1);
         DUE.is("what is NEEDED first is not AHEAD", x.cost(0), 20 + 2 * 10);
-        BoughtAhead y = made(40, 10);
+        BoughtAhead y = Made.withKind(40, 10);
         y.kind(20);
         for (int offer = 0; offer < 6; offer++) {
             y.offer(offer % 2, 40, 1);
@@ -173,7 +166,7 @@ public final class EdgesOfTermsTest {
         DUE.is("AHEAD in the last HOUR", y.tell(0, 39, 1), 7);
 
         DUE.says("it costs as much");
-        BoughtAhead z = made(6, 10);
+        BoughtAhead z = Made.withKind(6, 10);
         z.offer(0, 3, 9);
         z.buy(0, 5, 1);
         DUE.is("cost", z.cost(0), 9);
@@ -188,7 +181,7 @@ public final class EdgesOfTermsTest {
 
     private static void owners() {
         DUE.says("OWNERS 0 .. 3");
-        BoughtAhead x = made(3, 10);
+        BoughtAhead x = Made.withKind(3, 10);
         for (int owner = 0; owner < 4; owner++) {
             DUE.yes("need of " + owner, x.need(owner, 0, 0, owner + 1));
             DUE.is("pays of " + owner, x.pays(owner, 0), 10 * (owner + 1));
@@ -201,7 +194,7 @@ public final class EdgesOfTermsTest {
         }
 
         DUE.says("NEED machines of a KIND in an HOUR, 0 .. 9 each (0 at first)");
-        BoughtAhead y = made(40, 10);
+        BoughtAhead y = Made.withKind(40, 10);
         for (int hour = 0; hour < 40; hour++) {
             for (int owner = 0; owner < 4; owner++) {
                 DUE.is("at first, OWNER " + owner + " in " + hour, y.tell(0, hour, 10 + owner), 0);
@@ -216,7 +209,7 @@ public final class EdgesOfTermsTest {
         DUE.is("NEED", y.tell(0, 3, 11), 0);
 
         DUE.says("NEED of all: these together");
-        BoughtAhead z = made(3, 10);
+        BoughtAhead z = Made.withKind(3, 10);
         for (int owner = 0; owner < 4; owner++) {
             z.need(owner, 0, 2, 9);
             DUE.is("NEED of all", z.tell(0, 2, 0), 9 * (owner + 1));
@@ -229,7 +222,7 @@ public final class EdgesOfTermsTest {
 
     private static void plan() {
         DUE.says("how many of each OFFER are bought at each HOUR, 0 .. 60 (0 at first)");
-        BoughtAhead x = made(40, 10);
+        BoughtAhead x = Made.withKind(40, 10);
         x.offer(0, 1, 1);
         x.offer(0, 1, 1);
         for (int hour = 0; hour < 40; hour++) {
@@ -250,7 +243,7 @@ public final class EdgesOfTermsTest {
         DUE.is("of the other OFFER", x.tell(0, 7, 21), 60);
 
         DUE.says("AHEAD of a KIND in an HOUR: how many machines of it are there by the PLAN");
-        BoughtAhead y = made(3, 10);
+        BoughtAhead y = Made.withKind(3, 10);
         y.kind(20);
         y.offer(0, 3, 1);
         y.offer(0, 2, 1);
@@ -266,7 +259,7 @@ public final class EdgesOfTermsTest {
 
     private static void costOfPlan() {
         DUE.says("COST of a PLAN for a KIND: what its OFFERS cost, and its RATE for each machine that is NEEDED (by all) in an HOUR and not AHEAD");
-        BoughtAhead x = made(2, 10);
+        BoughtAhead x = Made.withKind(2, 10);
         DUE.is("nothing NEEDED, nothing bought", x.cost(0), 0);
         x.offer(0, 1, 3);
         x.need(0, 0, 0, 1);

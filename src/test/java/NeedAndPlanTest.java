@@ -18,15 +18,8 @@ public final class NeedAndPlanTest {
         DUE.end();
     }
 
-    private static BoughtAhead oneKind(int hours, int rate) {
-        BoughtAhead x = new BoughtAhead();
-        x.hours(hours);
-        x.kind(rate);
-        return x;
-    }
-
     private static void need() {
-        BoughtAhead x = oneKind(10, 5);
+        BoughtAhead x = Made.withKind(10, 5);
         DUE.yes("need 9", x.need(0, 0, 0, 9));
         DUE.yes("need 9", x.need(3, 0, 0, 9));
         DUE.yes("need in the last hour", x.need(2, 0, 9, 1));
@@ -49,7 +42,7 @@ public final class NeedAndPlanTest {
     }
 
     private static void needs() {
-        BoughtAhead x = oneKind(10, 5);
+        BoughtAhead x = Made.withKind(10, 5);
         x.kind(6);
         DUE.yes("needs", x.needs(1, 1, 2, 0x12345678));
         for (int i = 0; i < 8; i++) {
@@ -72,7 +65,7 @@ public final class NeedAndPlanTest {
     }
 
     private static void needsRefused() {
-        BoughtAhead x = oneKind(10, 5);
+        BoughtAhead x = Made.withKind(10, 5);
         x.needs(0, 0, 0, 0x11111111);
         int[][] wrong = {
             {0, 0, 3, 0x22222222}, {0, 0, -1, 0x22222222}, {0, 0, 10, 0}, {0, 0, MAX, 0}, {0, 0, MIN, 0},
@@ -88,7 +81,7 @@ public final class NeedAndPlanTest {
     }
 
     private static void buy() {
-        BoughtAhead x = oneKind(10, 5);
+        BoughtAhead x = Made.withKind(10, 5);
         DUE.no("no OFFER", x.buy(0, 0, 1));
         x.offer(0, 3, 12);
         DUE.yes("buy 60", x.buy(0, 0, 60));
@@ -109,7 +102,7 @@ public final class NeedAndPlanTest {
     }
 
     private static void clear() {
-        BoughtAhead x = oneKind(10, 5);
+        BoughtAhead x = Made.withKind(10, 5);
         x.kind(6);
         x.offer(0, 3, 12);
         x.offer(1, 3, 12);
@@ -133,7 +126,7 @@ public final class NeedAndPlanTest {
     }
 
     private static void tell() {
-        BoughtAhead x = oneKind(6, 5);
+        BoughtAhead x = Made.withKind(6, 5);
         x.kind(6);
         x.offer(0, 3, 12);
         x.offer(0, 2, 9);
@@ -164,7 +157,7 @@ public final class NeedAndPlanTest {
     }
 
     private static void tellNone() {
-        BoughtAhead x = oneKind(6, 5);
+        BoughtAhead x = Made.withKind(6, 5);
         x.kind(6);
         x.offer(0, 3, 12);
         x.offer(1, 3, 12);
@@ -186,7 +179,7 @@ public final class NeedAndPlanTest {
     }
 
     private static void cost() {
-        BoughtAhead x = oneKind(6, 5);
+        BoughtAhead x = Made.withKind(6, 5);
         DUE.is("nothing", x.cost(0), 0);
         x.offer(0, 3, 12);
         x.offer(0, 2, 9);
@@ -208,7 +201,7 @@ public final class NeedAndPlanTest {
     }
 
     private static void dearest() {
-        BoughtAhead x = oneKind(40, 1000);
+        BoughtAhead x = Made.withKind(40, 1000);
         for (int offer = 0; offer < 6; offer++) {
             x.offer(0, 40, 100000);
             for (int hour = 0; hour < 40; hour++) {
@@ -224,7 +217,7 @@ public final class NeedAndPlanTest {
 
     /** The last of 40 HOURS is next to nobody else's first one. */
     private static void fortyHours() {
-        BoughtAhead x = oneKind(40, 10);
+        BoughtAhead x = Made.withKind(40, 10);
         x.kind(20);
         x.kind(30);
         for (int offer = 0; offer < 6; offer++) {

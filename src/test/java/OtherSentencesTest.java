@@ -24,18 +24,6 @@ public final class OtherSentencesTest {
         DUE.end();
     }
 
-    /** A KIND with one OFFER, and OWNER 0's NEED for each HOUR. */
-    private static BoughtAhead made(int rate, int term, int cost, int... need) {
-        BoughtAhead x = new BoughtAhead();
-        x.hours(need.length);
-        x.kind(rate);
-        x.offer(0, term, cost);
-        for (int hour = 0; hour < need.length; hour++) {
-            x.need(0, 0, hour, need[hour]);
-        }
-        return x;
-    }
-
     /** As large as may be: 40 HOURS, six OFFERS of KIND 0 about as dear as by the hour or less, four OWNERS. */
     private static BoughtAhead large(Random random) {
         BoughtAhead x = new BoughtAhead();
@@ -64,13 +52,13 @@ public final class OtherSentencesTest {
 
     private static void byTheHourOrLess() {
         DUE.says("Machine hours bought ahead: machines that cost by the hour, or less if they are promised for many hours");
-        BoughtAhead x = made(10, 3, 20, 1, 1, 1);
+        BoughtAhead x = Made.withNeed(10, 3, 20, 1, 1, 1);
         DUE.is("by the hour", x.cost(0), 30);
         x.buy(0, 0, 1);
         DUE.is("promised for three hours", x.cost(0), 20);
 
         DUE.says("how many are needed hour by hour; what a plan of promises costs");
-        BoughtAhead y = made(10, 3, 25, new int[8]);
+        BoughtAhead y = Made.withNeed(10, 3, 25, new int[8]);
         y.needs(1, 0, 0, 0x01234567);
         y.needs(2, 0, 0, 0x10000001);
         int[] need = {1, 1, 2, 3, 4, 5, 6, 8};
@@ -131,10 +119,10 @@ public final class OtherSentencesTest {
         DUE.says("promises bought by a rule that sees no hour ahead");
         int[] need = {2, 3, 0, 1, 4, 4, 1, 2};
         for (int term = 1; term <= 5; term++) {
-            BoughtAhead all = made(10, term, 10 * term - 5, need);
+            BoughtAhead all = Made.withNeed(10, term, 10 * term - 5, need);
             all.blind(0);
             for (int known = 1; known <= 8; known++) {
-                BoughtAhead x = made(10, term, 10 * term - 5, java.util.Arrays.copyOf(need, known));
+                BoughtAhead x = Made.withNeed(10, term, 10 * term - 5, java.util.Arrays.copyOf(need, known));
                 x.blind(0);
                 for (int hour = 0; hour < known; hour++) {
                     String name = "TERM " + term + ", " + known + " HOURS: bought at " + hour;
@@ -146,7 +134,7 @@ public final class OtherSentencesTest {
 
     private static void ownersShare() {
         DUE.says("; owners who share, and what each pays.");
-        BoughtAhead x = made(10, 2, 15, 2, 0);
+        BoughtAhead x = Made.withNeed(10, 2, 15, 2, 0);
         x.need(1, 0, 1, 2);
         x.buy(0, 0, 1);
         // each has the machine for one HOUR: 7 and 8, and NEEDS one beside
@@ -175,7 +163,7 @@ public final class OtherSentencesTest {
                 x -> x.about(0, 2), x -> x.count(0), x -> x.image(2) ? 1 : 0, x -> x.again(0) ? 1 : 0);
         long[] due = {1, 1, 1, 1, 1, 0, 1, 1, 1, 30, 20, 10, 20, 30, 30, 20, 3, 1, 1};
         for (int i = 0; i < due.length; i++) {
-            BoughtAhead x = made(10, 3, 20, 1, 1, 1); // six calls
+            BoughtAhead x = Made.withNeed(10, 3, 20, 1, 1, 1); // six calls
             for (int five = 0; five < 101; five++) {
                 x.image(0);
                 x.need(1, 0, 1, 9);
@@ -189,7 +177,7 @@ public final class OtherSentencesTest {
 
     private static void eachOfferAtEachHour() {
         DUE.says("A PLAN: how many of each OFFER are bought at each HOUR");
-        BoughtAhead x = made(10, 3, 20, new int[8]);
+        BoughtAhead x = Made.withNeed(10, 3, 20, new int[8]);
         for (int offer = 1; offer < 6; offer++) {
             x.offer(0, 3, 20);
         }
@@ -203,7 +191,7 @@ public final class OtherSentencesTest {
 
     private static void proof() {
         DUE.says("PRICES of HOURS, whole numbers, 0 .. RATE each, are PROOF of the BEST if for each OFFER of the KIND and each HOUR at which it may be bought");
-        BoughtAhead x = made(10, 1, 6, 1, 1);
+        BoughtAhead x = Made.withNeed(10, 1, 6, 1, 1);
         rows("an HOUR is 6 at most", x, 6, 6);
         x.offer(0, 2, 9);
         rows("and two are 9 at most", x, 3, 6);
@@ -214,7 +202,7 @@ public final class OtherSentencesTest {
         rows("an HOUR is 4 at most, so that two are 9 at most anyway", x, 4, 4);
 
         DUE.says(", and NEED times PRICE, of all HOURS, are the BEST together.");
-        BoughtAhead y = made(10, 2, 12, 3, 0, 2);
+        BoughtAhead y = Made.withNeed(10, 2, 12, 3, 0, 2);
         DUE.is("BEST, by the hour", y.best(0), 50);
         rows("10 where it is NEEDED, and 2 are left between", y, 10, 2, 10);
         y.need(0, 0, 1, 3);
@@ -231,7 +219,7 @@ public final class OtherSentencesTest {
         int rate = 3;
         int[][] offers = {{2, 4}};
         for (int[] need : new int[][] {{1, 1, 0}, {0, 1, 1}, {1, 1, 1}, {1, 2, 1}, {2, 1, 0}, {0, 0, 0}, {0, 2, 0}}) {
-            BoughtAhead x = made(rate, 2, 4, need);
+            BoughtAhead x = Made.withNeed(rate, 2, 4, need);
             int[] told = {x.price(0, 0), x.price(0, 1), x.price(0, 2)};
             String name = "NEED " + need[0] + need[1] + need[2];
             DUE.yes(name + ": it is one of them", AllThereAre.isProof(told, need, offers, x.best(0)));
@@ -244,7 +232,7 @@ public final class OtherSentencesTest {
                 }
             }
         }
-        rows("NEED 110: 3 and 1, or 1 and 3, but 3 and 1 leave 3 for the last", made(rate, 2, 4, 1, 1, 0), 3, 1, 3);
+        rows("NEED 110: 3 and 1, or 1 and 3, but 3 and 1 leave 3 for the last", Made.withNeed(rate, 2, 4, 1, 1, 0), 3, 1, 3);
     }
 
     private static void bought(String name, BoughtAhead x, int offer, int... row) {
@@ -255,7 +243,7 @@ public final class OtherSentencesTest {
 
     private static void blind() {
         DUE.says("BLIND: OFFERS of one kind are bought by a rule, HOUR by HOUR, from 0 on");
-        BoughtAhead x = made(10, 3, 20, 1, 1, 1);
+        BoughtAhead x = Made.withNeed(10, 3, 20, 1, 1, 1);
         x.offer(0, 2, 10);
         x.blind(1);
         bought("by OFFER 1's TERM and COST", x, 1, 1, 0, 1);
@@ -265,19 +253,19 @@ public final class OtherSentencesTest {
         bought("no OFFER 1", x, 1, 0, 0, 0);
 
         DUE.says("one is bought at this HOUR, and from then on one more is COUNTED for all these latest HOURS and the TERM - 1 next ones, and SPENT is asked anew.");
-        BoughtAhead two = made(10, 2, 20, 2, 2);
+        BoughtAhead two = Made.withNeed(10, 2, 20, 2, 2);
         DUE.is("both HOURS are SPENT twice", two.blind(0), 2 * 20 + 2 * 10);
         bought("twice", two, 0, 0, 2);
-        BoughtAhead one = made(10, 2, 20, 3, 1);
+        BoughtAhead one = Made.withNeed(10, 2, 20, 3, 1);
         DUE.is("both HOURS are SPENT once", one.blind(0), 20 + 3 * 10);
         bought("once", one, 0, 0, 1);
-        BoughtAhead next = made(10, 2, 20, 2, 2, 3, 3);
+        BoughtAhead next = Made.withNeed(10, 2, 20, 2, 2, 3, 3);
         // two are COUNTED for 0 .. 2 at 1; at 3 the third of HOUR 2 and the first of HOUR 3 are SPENT, once
         DUE.is("two are COUNTED for the next HOUR", next.blind(0), 3 * 20 + 2 * 10 + 10 + 2 * 10);
         bought("next", next, 0, 0, 2, 0, 1);
 
         DUE.says("Promise 15: COST of BLIND for an OFFER;");
-        BoughtAhead y = made(10, 3, 20, 1, 1, 1);
+        BoughtAhead y = Made.withNeed(10, 3, 20, 1, 1, 1);
         y.buy(0, 0, 3);
         DUE.is("COST of the PLAN that was there", y.cost(0), 60);
         DUE.is("COST of BLIND", y.blind(0), 20 + 10);
@@ -285,7 +273,7 @@ public final class OtherSentencesTest {
 
     private static void shares() {
         DUE.says("SHARES of what a KIND costs by the PLAN:");
-        BoughtAhead x = made(10, 1, 7, 1, 1);
+        BoughtAhead x = Made.withNeed(10, 1, 7, 1, 1);
         x.kind(20);
         x.need(0, 1, 0, 1);
         DUE.is("by the hour", x.pays(0, 0), 20);
@@ -296,7 +284,7 @@ public final class OtherSentencesTest {
         DUE.is("not any more", x.pays(0, 0), 20);
 
         DUE.says("; OFFERS cost what they cost.");
-        BoughtAhead y = made(10, 3, 25, 0, 1, 0);
+        BoughtAhead y = Made.withNeed(10, 3, 25, 0, 1, 0);
         y.buy(0, 0, 1);
         DUE.is("NEEDED for one of three HOURS", y.pays(0, 0), 25);
         y.buy(0, 0, 0);
@@ -304,7 +292,7 @@ public final class OtherSentencesTest {
         DUE.is("beyond the last HOUR", y.pays(0, 0), 25);
 
         DUE.says("OWNERS pay by turns of NEED: of each HOUR the machines AHEAD go, one by one, to the OWNER who NEEDS most yet");
-        BoughtAhead z = made(10, 2, 0, 3, 1);
+        BoughtAhead z = Made.withNeed(10, 2, 0, 3, 1);
         z.need(2, 0, 0, 1);
         z.need(2, 0, 1, 3);
         z.buy(0, 0, 1);
@@ -318,7 +306,7 @@ public final class OtherSentencesTest {
 
     private static void none() {
         DUE.says("The constants: `NONE = -1`: There is none.");
-        BoughtAhead x = made(10, 3, 20, 1, 1, 1);
+        BoughtAhead x = Made.withNeed(10, 3, 20, 1, 1, 1);
         DUE.is("NONE", BoughtAhead.NONE, -1);
         DUE.is("no such RATE", x.kind(0), BoughtAhead.NONE);
         DUE.is("no such TERM", x.offer(0, 0, 20), BoughtAhead.NONE);
@@ -347,7 +335,7 @@ public final class OtherSentencesTest {
         }
 
         DUE.says("Promise 10: Of a KIND in an HOUR, what 0: NEED of all, 1: AHEAD, 2: how many are NEEDED and not AHEAD");
-        BoughtAhead y = made(10, 2, 15, 5, 0, 4);
+        BoughtAhead y = Made.withNeed(10, 2, 15, 5, 0, 4);
         y.kind(20);
         y.need(3, 0, 2, 3);
         y.need(3, 1, 0, 8);
@@ -362,10 +350,10 @@ public final class OtherSentencesTest {
 
     private static void objectsApart() {
         DUE.says("Nothing is promised beyond the answers and state changes described above");
-        BoughtAhead x = made(10, 3, 20, 1, 1, 1);
+        BoughtAhead x = Made.withNeed(10, 3, 20, 1, 1, 1);
         x.buy(0, 0, 1);
         x.image(0);
-        BoughtAhead other = made(7, 2, 9, 4, 4);
+        BoughtAhead other = Made.withNeed(7, 2, 9, 4, 4);
         other.blind(0);
         other.best(0);
         other.image(1);
